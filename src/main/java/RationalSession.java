@@ -600,6 +600,7 @@ public final class RationalSession {
             return over.isZero();
         }
 
+        /** The greater of the two degrees. */
         int height() {
             return Math.max(over.top, under.top);
         }
@@ -625,8 +626,8 @@ public final class RationalSession {
     }
 
     /**
-     * The operations on forms. Each leaves a quotient that need not be a FORM yet in over and under;
-     * settle makes the FORM of it.
+     * The operations on forms. Each leaves a quotient that need not be a FORM yet in over and under, or
+     * answers a trouble; settle makes the FORM of what is left.
      */
     private static final class Workshop {
         // A product of two coefficient rows that are not BIG reaches twice the highest power.
@@ -640,18 +641,16 @@ public final class RationalSession {
         private final Polynomial second = new Polynomial(ROOM);
         private final Polynomial quotient = new Polynomial(ROOM);
 
-        int add(Form left, Form right, int factor) {
+        void add(Form left, Form right, int factor) {
             over.setProduct(left.over, right.under);
             side.setProduct(right.over, left.under);
             over.addMultiple(side, factor);
             under.setProduct(left.under, right.under);
-            return NO_TROUBLE;
         }
 
-        int multiply(Form left, Form right) {
+        void multiply(Form left, Form right) {
             over.setProduct(left.over, right.over);
             under.setProduct(left.under, right.under);
-            return NO_TROUBLE;
         }
 
         int divide(Form left, Form right) {
@@ -663,21 +662,19 @@ public final class RationalSession {
             return NO_TROUBLE;
         }
 
-        int negate(Form form) {
+        void negate(Form form) {
             over.copy(form.over);
             over.scale(MINUS_ONE);
             under.copy(form.under);
-            return NO_TROUBLE;
         }
 
-        int derive(Form form) {
+        void derive(Form form) {
             side.setDerivative(form.over);
             over.setProduct(side, form.under);
             side.setDerivative(form.under);
             help.setProduct(form.over, side);
             over.addMultiple(help, MINUS_ONE);
             under.setProduct(form.under, form.under);
-            return NO_TROUBLE;
         }
 
         int power(Form form, int exponent) {
@@ -704,7 +701,7 @@ public final class RationalSession {
 
         int compose(Form outer, Form inner) {
             int height = outer.height();
-            // Heights of functions multiply exactly when one is put into the other.
+            // Nothing cancels when one form is put into another, so their heights multiply exactly.
             if (height * inner.height() > HIGHEST_POWER) {
                 return TOO_BIG;
             }
@@ -828,29 +825,34 @@ public final class RationalSession {
             Form right = stack[depth - 1];
             Form left = stack[depth - sides];
             depth = depth - sides + 1;
-            int trouble = prepare(kind, detail, left, right);
-            return trouble == NO_TROUBLE ? workshop.settle(left) : trouble;
-        }
-
-        private int prepare(int kind, int detail, Form left, Form right) {
+            int trouble = NO_TROUBLE;
             switch (kind) {
                 case Program.ADD:
-                    return workshop.add(left, right, 1);
+                    workshop.add(left, right, 1);
+                    break;
                 case Program.SUBTRACT:
-                    return workshop.add(left, right, MINUS_ONE);
+                    workshop.add(left, right, MINUS_ONE);
+                    break;
                 case Program.MULTIPLY:
-                    return workshop.multiply(left, right);
+                    workshop.multiply(left, right);
+                    break;
                 case Program.QUOTIENT:
-                    return workshop.divide(left, right);
+                    trouble = workshop.divide(left, right);
+                    break;
                 case Program.COMPOSE:
-                    return workshop.compose(left, right);
+                    trouble = workshop.compose(left, right);
+                    break;
                 case Program.POWER:
-                    return workshop.power(left, detail);
+                    trouble = workshop.power(left, detail);
+                    break;
                 case Program.DERIVE:
-                    return workshop.derive(left);
+                    workshop.derive(left);
+                    break;
                 default:
-                    return workshop.negate(left);
+                    workshop.negate(left);
+                    break;
             }
+            return trouble == NO_TROUBLE ? workshop.settle(left) : trouble;
         }
     }
 

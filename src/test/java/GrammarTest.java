@@ -1,4 +1,7 @@
-/** BAD PLACES against the slow reader of Grammar. */
+/**
+ * BAD PLACES against the slow reader of Grammar. One object takes more calls here than it is promised to:
+ * reset brings it back to where a new one stands.
+ */
 public final class GrammarTest {
     private static final String CHARACTERS = "0123456789xabcds%+-*/^(),:";
 

@@ -1,4 +1,7 @@
-/** Random sessions, every answer compared with the Model's. */
+/**
+ * Random sessions, every answer compared with the Model's. They are longer than the document promises,
+ * so that sessions get full; the program does not count calls.
+ */
 public final class ModelTest {
     private static final int SESSIONS = 400;
     private static final int LINES = 60;

@@ -297,6 +297,9 @@ public final class PromisesTest {
         meaning("x/(2*x+4)", "(5004*x)/(x+2)");
         meaning("1/x-1/x", "0");
         meaning("1/x+1/(x+1)", "(2*x+1)/(x^2+x)");
+        // As many sides waiting at once as a line can have, and as many operands.
+        meaning("1+2*s(x,1+2*s(x,1+2*s(x,1+2*x)))", "16*x+15");
+        meaning("1+2-3*4+5*6-7/7+8-9*1*2*3+4+5-6", "9984");
         meaning("(x^2-1)/(x^2+2*x+1)", "(x+10006)/(x+1)");
     }
 
@@ -574,6 +577,10 @@ public final class PromisesTest {
         Check.due("labels start again", Typist.enter(s, "x^2"), 1);
         Check.due("shape numbers start again", s.shape(1), 1);
         Check.due("shapes()", s.shapes(), 1);
+        for (int name = 0; name < 3; name++) {
+            Check.due("names stay forgotten", s.bound(name), 0);
+            Check.due("names stay forgotten", Typist.enter(s, "" + (char) ('a' + name)), UNBOUND);
+        }
         for (int i = 2; i <= 40; i++) {
             Typist.enter(s, "1");
         }
