@@ -26,8 +26,8 @@ public final class RationalSession {
     private static final int NO_NAME = -1;
 
     private final Line typed;
-    private final Reader reader;
     private final Program program;
+    private final Reader reader;
     private final Worker worker;
     private final Shelf shelf;
     private final TextSeeker seeker;
@@ -35,8 +35,8 @@ public final class RationalSession {
 
     public RationalSession() {
         typed = new Line();
-        reader = new Reader();
         program = new Program();
+        reader = new Reader(typed, program);
         worker = new Worker();
         shelf = new Shelf();
         seeker = new TextSeeker();
@@ -69,7 +69,7 @@ public final class RationalSession {
 
     public int enter() {
         // Reading changes nothing that can be seen, so it may come before the test for FULL.
-        int bad = reader.read(typed, program);
+        int bad = reader.read();
         typed.clear();
         if (shelf.isFull()) {
             return FULL;
@@ -267,18 +267,21 @@ public final class RationalSession {
         private final int[] waitingInTerm = new int[MOST_OPEN + 1];
         private int open;
 
-        private Line line;
-        private Program program;
+        private final Line line;
+        private final Program program;
         private int place;
         private boolean stuck;
         private boolean wantsAtom;
         private boolean maySign;
         private boolean mayPower;
 
+        Reader(Line line, Program program) {
+            this.line = line;
+            this.program = program;
+        }
+
         /** Answers the BAD PLACE, or NO_PLACE for a good line. */
-        int read(Line source, Program made) {
-            line = source;
-            program = made;
+        int read() {
             program.clear();
             place = 0;
             stuck = false;
