@@ -1,37 +1,51 @@
-/** The document's "Terms", sentence by sentence: each at its boundary and just beyond it. */
-public final class TermsTest {
+/** What the document's "Terms" say of a line's meaning, sentence by sentence: each at its boundary and beyond. */
+public final class MeaningTest {
     private static final int FULL = RationalSession.FULL;
     private static final int UNBOUND = RationalSession.UNBOUND;
     private static final int DIVIDE = RationalSession.DIVIDE;
     private static final int TOO_BIG = RationalSession.TOO_BIG;
 
-    private static final String ALLOWED = "0123456789xabcds%+-*/^(),:";
-
     public static void main(String[] args) {
         numbers();
-        forms();
+        coefficients();
+        denominatorsLead();
+        commonDivisors();
+        zeroFunction();
+        oneForm();
         bigForms();
-        theLine();
-        shapeOfLines();
-        exponents();
-        literals();
-        labelsInLines();
-        openings();
-        badPlaces();
-        meanings();
-        order();
-        troubles();
-        bigResults();
+        operands();
+        operations();
+        leadingMinus();
+        powersOfFunctions();
+        negativePowers();
+        derivatives();
+        substitutions();
+        fromLeftToRight();
+        asSoonAsPossible();
+        firstTrouble();
+        unbound();
+        divisionByZero();
+        negativePowersOfZero();
+        zeroDenominators();
+        bigResultsOfOperations();
+        bigDerivatives();
+        bigSubstitutions();
+        bigPowers();
+        bigNegatives();
+        neverBig();
         labels();
+        sameShape();
+        orderOfShapes();
+        namesAtFirst();
         Check.end();
     }
 
-    private static void terms(String words) {
+    private static void sentence(String words) {
         Check.sentence("Terms", words);
     }
 
     private static void numbers() {
-        terms("NUMBERS are 0 .. 10006, taken modulo 10007");
+        sentence("NUMBERS are 0 .. 10006, taken modulo 10007");
         Fresh.text("0", "0");
         Fresh.text("10006", "10006");
         Fresh.text("10006+1", "0");
@@ -49,7 +63,10 @@ public final class TermsTest {
         Fresh.text("10006^12", "1");
         Fresh.text("10006^11", "10006");
         Fresh.text("3^12", "1070");
-        terms("A POLYNOMIAL in x has numbers as coefficients");
+    }
+
+    private static void coefficients() {
+        sentence("A POLYNOMIAL in x has numbers as coefficients");
         Fresh.text("10006*x+x", "0");
         Fresh.text("10006*x^12+x^12+x", "x");
         Fresh.text("10006*x^12+2*x^12+x", "x^12+x");
@@ -58,8 +75,8 @@ public final class TermsTest {
         Fresh.text("d(10006*x^12)", "9995*x^11");
     }
 
-    private static void forms() {
-        terms("D's highest coefficient is 1");
+    private static void denominatorsLead() {
+        sentence("D's highest coefficient is 1");
         Fresh.text("1/(3*x)", "(3336)/(x)");
         Fresh.text("10006/(10006*x)", "(1)/(x)");
         Fresh.text("1/(10006*x^12+1)", "(10006)/(x^12+10006)");
@@ -68,7 +85,10 @@ public final class TermsTest {
         Fresh.text("1/7", "7148");
         Fresh.text("x/7", "7148*x");
         Fresh.text("s(1/x,2*x)", "(5004)/(x)");
-        terms("no polynomial of degree 1 or more divides both");
+    }
+
+    private static void commonDivisors() {
+        sentence("no polynomial of degree 1 or more divides both");
         Fresh.text("(x^2-1)/(x-1)", "x+1");
         Fresh.text("(x-1)/(x^2-1)", "(1)/(x+1)");
         Fresh.text("(x+1)/(2*x+2)", "5004");
@@ -85,12 +105,18 @@ public final class TermsTest {
         Fresh.text("d(1/x)", "(10006)/(x^2)");
         Fresh.text("d(1/x^11)", "(9996)/(x^12)");
         Fresh.text("(x^2-1)/(x^2+2*x+1)", "(x+10006)/(x+1)");
-        terms("the zero function is 0 / 1");
+    }
+
+    private static void zeroFunction() {
+        sentence("the zero function is 0 / 1");
         for (String line : new String[] {"0", "x-x", "0/x", "0*x^-12", "1/x-1/x", "d(7)", "s(x,0)", "0^1", "0^12", "-0",
                 "10007*x", "10007/x", "s(x-x,1/x)", "d(x)-1", "0/99999", "(x-x)/(x^12+5)"}) {
-            zeroFunction(line);
+            checkZeroFunction(line);
         }
-        terms("Every quotient of polynomials, the divisor not zero, has exactly one FORM");
+    }
+
+    private static void oneForm() {
+        sentence("Every quotient of polynomials, the divisor not zero, has exactly one FORM");
         Fresh.same("x+1", "(x^2-1)/(x-1)");
         Fresh.same("1/x", "x^-1");
         Fresh.same("5/(5*x)", "x^11/x^12");
@@ -100,17 +126,8 @@ public final class TermsTest {
         Fresh.same("s(x^12+1,1/x)", "(1+x^12)/x^12");
     }
 
-    private static void zeroFunction(String line) {
-        RationalSession s = new RationalSession();
-        Check.due(line, Typist.enter(s, line), 1);
-        Check.due(line + ": degree of N", s.degree(1, false), -1);
-        Check.due(line + ": degree of D", s.degree(1, true), 0);
-        Check.due(line + ": D", s.coefficient(1, true, 0), 1);
-        Check.due(line + ": text", Typist.text(s, 1), "0");
-    }
-
     private static void bigForms() {
-        terms("A FORM is BIG if N or D has a degree above 12");
+        sentence("A FORM is BIG if N or D has a degree above 12");
         Fresh.text("x^12", "x^12");
         Fresh.text("x^-12", "(1)/(x^12)");
         Fresh.text("x^12/(x^12+1)", "(x^12)/(x^12+1)");
@@ -132,261 +149,8 @@ public final class TermsTest {
         Fresh.text("(x+1)/x^12*(x^12/(x+1))", "1");
     }
 
-    private static void theLine() {
-        terms("THE LINE is a text of at most 32 characters, empty at first");
-        RationalSession s = new RationalSession();
-        Check.due("length at first", s.line(-1), 0);
-        String longest = "x+x+x+x+x+x+x+x+x+x+x+x+x+x+x+10";
-        Check.due("32 characters", Typist.type(s, longest), 32);
-        Check.due("a 33rd", s.type('1'), FULL);
-        Check.due("all 32 are read", s.enter(), 1);
-        Check.due("all 32 are worked out", Typist.text(s, 1), "15*x+10");
-        terms("Its characters are digits, x, the names a b c, d, s, % and + - * / ^ ( ) , :");
-        for (int c = 0; c < 256; c++) {
-            RationalSession one = new RationalSession();
-            boolean allowed = c > 0 && ALLOWED.indexOf(c) >= 0;
-            Check.due("type(" + c + ")", one.type(c), allowed ? 1 : RationalSession.REFUSED);
-            Check.due("length after type(" + c + ")", one.line(-1), allowed ? 1 : 0);
-        }
-    }
-
-    private static void shapeOfLines() {
-        terms("line: sum, or a name, the character :, and a sum");
-        for (String name : new String[] {"a", "b", "c"}) {
-            Fresh.answer(name + ":x", 1);
-            Fresh.answer(name + ":-x", 1);
-            Fresh.place(name + ":", 2);
-            Fresh.place(name + "::x", 2);
-        }
-        Fresh.place("d:x", 1);
-        Fresh.place("s:x", 1);
-        Fresh.place("x:x", 1);
-        Fresh.place("1:x", 1);
-        Fresh.place(":x", 0);
-        Fresh.place("+a:x", 2);
-        Fresh.place("(a:x)", 2);
-        Fresh.place("a:b:x", 3);
-        Fresh.place("ab:x", 1);
-        Fresh.place("%1:x", 2);
-        terms("sum: a term, or + or - and a term; then any number of times + or - and a term");
-        Fresh.text("x", "x");
-        Fresh.text("+x", "x");
-        Fresh.text("-x", "10006*x");
-        Fresh.text("-1+2-3+4-5+6-7+8-9+1-2+3-4+5-6+7", "10006");
-        Fresh.place("++x", 1);
-        Fresh.place("--x", 1);
-        Fresh.place("+-x", 1);
-        Fresh.place("x+-x", 2);
-        Fresh.place("x--x", 2);
-        Fresh.place("*x", 0);
-        terms("term: a power, then any number of times * or / and a power");
-        Fresh.text("1*2/2*3/3*4/4*5/5*6/6*7/7*8/8*9", "9");
-        Fresh.place("x**x", 2);
-        Fresh.place("x*/x", 2);
-        Fresh.place("x*-x", 2);
-        Fresh.place("x/+x", 2);
-        Fresh.place("xx", 1);
-        Fresh.place("2x", 1);
-        Fresh.place("x2", 1);
-        Fresh.place("x(x)", 1);
-        Fresh.place("(x)(x)", 3);
-        Fresh.place("(x)2", 3);
-        Fresh.place("%1%1", 2);
-        terms("power: an atom, or an atom, ^ and an exponent, or an atom, ^, - and an exponent");
-        Fresh.text("x^2", "x^2");
-        Fresh.text("x^-2", "(1)/(x^2)");
-        Fresh.text("(x)^2", "x^2");
-        Fresh.text("d(x^2)^2", "4*x^2");
-        Fresh.text("s(x,x)^2", "x^2");
-        Fresh.text("3^2", "9");
-        Fresh.place("^2", 0);
-        Fresh.place("x^+2", 2);
-        Fresh.place("x^--2", 3);
-        Fresh.place("x^2^2", 3);
-        Fresh.place("x^-2^2", 4);
-        Fresh.place("x^x", 2);
-        Fresh.place("x^a", 2);
-        Fresh.place("x^(2)", 2);
-        Fresh.place("x^%1", 2);
-        terms("atom: a literal, 1 .. 5 digits; x; a name; % and one or two digits, a label; ( sum ); d( sum ); s( sum , sum )");
-        Fresh.text("(-x)", "10006*x");
-        Fresh.text("d(-x)", "10006");
-        Fresh.text("s(-x,-x)", "x");
-        Fresh.place("()", 1);
-        Fresh.place("d()", 2);
-        Fresh.place("s()", 2);
-        Fresh.place("s(,x)", 2);
-        Fresh.place("s(x,)", 4);
-        Fresh.place("s(x)", 3);
-        Fresh.place("s(x,x,x)", 5);
-        Fresh.place("d(x,x)", 3);
-        Fresh.place("(x,x)", 2);
-        Fresh.place("s((x,x))", 4);
-        Fresh.place("x,x", 1);
-        Fresh.place("dx", 1);
-        Fresh.place("sx", 1);
-        Fresh.place("d^2", 1);
-        Fresh.place("s^2", 1);
-        Fresh.place(")", 0);
-        Fresh.place(",", 0);
-        Fresh.place("x)", 1);
-        Fresh.place("(x))", 3);
-    }
-
-    private static void exponents() {
-        terms("An exponent is one or two digits worth 0 .. 12");
-        for (int worth = 0; worth <= 99; worth++) {
-            String two = "" + (char) ('0' + worth / 10) + (char) ('0' + worth % 10);
-            if (worth <= 12) {
-                exponent(two, worth);
-            } else {
-                Fresh.place("x^" + two, 3);
-                Fresh.place("x^-" + two, 4);
-            }
-            if (worth <= 9) {
-                exponent("" + worth, worth);
-            }
-        }
-    }
-
-    private static void exponent(String digits, int worth) {
-        RationalSession s = new RationalSession();
-        Check.due("x^" + digits, Typist.enter(s, "x^" + digits), 1);
-        Check.due("x^" + digits + ": N", s.degree(1, false), worth);
-        Check.due("x^" + digits + ": D", s.degree(1, true), 0);
-        Check.due("x^-" + digits, Typist.enter(s, "x^-" + digits), 2);
-        Check.due("x^-" + digits + ": N", s.degree(2, false), 0);
-        Check.due("x^-" + digits + ": D", s.degree(2, true), worth);
-    }
-
-    private static void literals() {
-        terms("A literal is its worth modulo 10007");
-        Fresh.text("10007", "0");
-        Fresh.text("10008", "1");
-        Fresh.text("20013", "10006");
-        Fresh.text("20014", "0");
-        Fresh.text("90063", "0");
-        Fresh.text("99999", "9936");
-        terms("a literal, 1 .. 5 digits");
-        Fresh.text("7", "7");
-        Fresh.text("12", "12");
-        Fresh.text("123", "123");
-        Fresh.text("1234", "1234");
-        Fresh.text("12345", "2338");
-        Fresh.text("00000", "0");
-        Fresh.text("00007", "7");
-        Fresh.place("123456", 5);
-        Fresh.place("000000", 5);
-        Fresh.place("000001", 5);
-        Fresh.place("x*999999", 7);
-    }
-
-    private static void labelsInLines() {
-        terms("a literal, exponent or label taking as many digits as follow each other");
-        RationalSession s = new RationalSession();
-        for (int i = 1; i <= 12; i++) {
-            Typist.enter(s, i + "*x");
-        }
-        Check.due("%12", Typist.enter(s, "%12"), 13);
-        Check.due("%12 is label 12, not 1 and then 2", Typist.text(s, 13), "12*x");
-        Check.due("%1", Typist.enter(s, "%1"), 14);
-        Check.due("%1: text", Typist.text(s, 14), "x");
-        Check.due("x^12", Typist.enter(s, "x^12"), 15);
-        Check.due("x^12 is the 12th power", Typist.text(s, 15), "x^12");
-        Check.due("12*x", Typist.enter(s, "12*x"), 16);
-        Check.due("12*x is twelve", s.shape(16), 12);
-        terms("% and one or two digits, a label");
-        Check.due("%01", Typist.enter(s, "%01"), 17);
-        Check.due("%01: text", Typist.text(s, 17), "x");
-        Check.due("%09", Typist.enter(s, "%09"), 18);
-        Check.due("%09: text", Typist.text(s, 18), "9*x");
-        Check.due("%012", Typist.enter(s, "%012"), RationalSession.SYNTAX);
-        Check.due("%012: badPlace()", s.badPlace(), 3);
-        for (int label = 0; label <= 99; label++) {
-            Fresh.good("%" + label);
-            Fresh.answer("%" + label, UNBOUND);
-        }
-        Fresh.place("%", 1);
-        Fresh.place("%x", 1);
-        Fresh.place("%-1", 1);
-        Fresh.place("%a", 1);
-        Fresh.place("%(1)", 1);
-    }
-
-    private static void openings() {
-        terms("( with the d or s before it, if any, is an OPENING");
-        Fresh.text("d(d(d(d(d(d(d(d(x))))))))", "0");
-        Fresh.text("((((d(d(d(d(x^8))))))))", "1680*x^4");
-        Fresh.text("(((((s(1,s(1,s(1,x))))))))", "1");
-        terms("at no place more than 8 openings may be open");
-        Fresh.text("((((((((x))))))))", "x");
-        Fresh.text("(((((((d(x))))))))", "1");
-        Fresh.text("(((((((s(x,2))))))))", "2");
-        // Eight at one place, not in all.
-        Fresh.text("((((((((x))))))))+(x)", "2*x");
-        Fresh.text("((((((((1))))))))*((((((x))))))", "x");
-        Fresh.text("(((((((d(x)+(x))))))))", "x+1");
-        Fresh.text("((((((s((x),(x))))))))", "x");
-        Fresh.place("(((((((((x)))))))))", 8);
-        Fresh.place("(((((((d(x)+((x", 13);
-        Fresh.place("(((((((s(x,(", 11);
-    }
-
-    private static void badPlaces() {
-        terms("the first character with which no good line of any length, with at most 8 open at any place, begins up to and with it");
-        Fresh.place("x)x)x", 1);
-        Fresh.place("xx+(", 1);
-        Fresh.place("x+)*(", 2);
-        Fresh.place("1/0)", 3);
-        Fresh.place("a+b+)", 4);
-        Fresh.place("x+x+x+x+x+x+x+x+x+x+x+x+x+x+x+xx", 31);
-        Fresh.place("x+x+x+x+x+x+x+x+x+x+x+x+x+x+x+x:", 31);
-        terms("or opens a ninth");
-        Fresh.place("(((((((((", 8);
-        Fresh.place("d(d(d(d(d(d(d(d(d(x)))))))))", 16);
-        Fresh.place("s(s(s(s(s(s(s(s(s(x", 16);
-        terms("it is the line's length if there is none, the line being too short");
-        for (String line : new String[] {"+", "-", "a:", "a:-", "x+", "x-", "x*", "x/", "x^", "x^-", "%", "(", "(-", "(x", "d",
-                "d(", "d(x", "s", "s(", "s(x", "s(x,", "s(x,-", "s(x,x", "((x)", "x+d", "x^12*", "((((((((x", "(((((((d",
-                "(((((((d(", "(((((((s(x,", "x+x+x+x+x+x+x+x+x+x+x+x+x+x+x+x+", "(x+x+x+x+x+x+x+x+x+x+x+x+x+x+x+1",
-                "((((((((x+x+x+x+x+x+x+x+x+x+x+12", "s(1,s(1,s(1,s(1,s(1,s(1,s(1,s(1,"}) {
-            Fresh.place(line, line.length());
-        }
-        terms("a digit that makes a literal's sixth digit, an exponent's or label's third");
-        Fresh.place("123456", 5);
-        Fresh.place("x+123456-", 7);
-        Fresh.place("(000000", 6);
-        Fresh.place("x^000", 4);
-        Fresh.place("x^012", 4);
-        Fresh.place("x^123", 4);
-        Fresh.place("x^-012", 5);
-        Fresh.place("%123", 3);
-        Fresh.place("%000", 3);
-        Fresh.place("x*%990", 5);
-        terms("or an exponent's worth more than 12");
-        Fresh.place("x^13", 3);
-        Fresh.place("x^-13", 4);
-        Fresh.place("x^20", 3);
-        Fresh.place("x^99)", 3);
-        Fresh.place("(x+1)^13", 7);
-        terms("and a d, s or ( where 8 are open, is such a character");
-        Fresh.place("((((((((d", 8);
-        Fresh.place("((((((((s", 8);
-        Fresh.place("((((((((d(x", 8);
-        Fresh.place("((((((((s(x", 8);
-        Fresh.place("((((((((-(", 9);
-        Fresh.place("((((((((x+(", 10);
-        Fresh.place("((((((((x+d(", 10);
-        Fresh.place("((((((((x*s(", 10);
-        Fresh.place("(((((((d((", 9);
-        Fresh.place("(((((((s((", 9);
-        Fresh.place("(((((((s(x,d(", 11);
-        terms("An empty line is too short");
-        Fresh.place("", 0);
-    }
-
-    private static void meanings() {
-        terms("x the letter; a name the FORM it is bound to; %k the FORM of label k");
+    private static void operands() {
+        sentence("x the letter; a name the FORM it is bound to; %k the FORM of label k");
         RationalSession s = new RationalSession();
         Typist.enter(s, "a:x+1");
         Typist.enter(s, "b:a");
@@ -397,7 +161,10 @@ public final class TermsTest {
         Check.due("b is what a was, not what a is", Typist.text(s, 5), "x+1");
         Check.due("s(a,b)", Typist.enter(s, "s(a,b)"), 6);
         Check.due("s(a,b): text", Typist.text(s, 6), "(1)/(x+2)");
-        terms("+ - * / are those of functions");
+    }
+
+    private static void operations() {
+        sentence("+ - * / are those of functions");
         Fresh.text("8-3-2", "3");
         Fresh.text("8/4/2", "1");
         Fresh.text("8/4*2", "4");
@@ -409,7 +176,10 @@ public final class TermsTest {
         // As many sides waiting at once as a line can have, and as many operands.
         Fresh.text("1+2*s(x,1+2*s(x,1+2*s(x,1+2*x)))", "16*x+15");
         Fresh.text("1+2-3*4+5*6-7/7+8-9*1*2*3+4+5-6", "9984");
-        terms("a leading - takes its term's negative (before what is added to it)");
+    }
+
+    private static void leadingMinus() {
+        sentence("a leading - takes its term's negative (before what is added to it)");
         Fresh.text("-x+3", "10006*x+3");
         Fresh.text("-x^2*2+x", "10005*x^2+x");
         Fresh.text("-2^2", "10003");
@@ -417,7 +187,10 @@ public final class TermsTest {
         Fresh.text("-(x+1)-x", "10005*x+10006");
         Fresh.text("(-x)^2", "x^2");
         Fresh.text("-x^12/(x^12+1)", "(10006*x^12)/(x^12+1)");
-        terms("f^k is f times itself k times (1 for k = 0, for f = 0 too)");
+    }
+
+    private static void powersOfFunctions() {
+        sentence("f^k is f times itself k times (1 for k = 0, for f = 0 too)");
         for (String base : new String[] {"0", "(x-x)", "10007", "1", "x", "(x^12)", "(1/x^12)", "d(3)"}) {
             Fresh.text(base + "^0", "1");
             Fresh.text(base + "^00", "1");
@@ -426,14 +199,20 @@ public final class TermsTest {
         Fresh.text("0^12", "0");
         Fresh.text("(x+1)^2", "x^2+2*x+1");
         Fresh.text("((x+1)/x)^2", "(x^2+2*x+1)/(x^2)");
-        terms("f^-k is 1 / f^k");
+    }
+
+    private static void negativePowers() {
+        sentence("f^-k is 1 / f^k");
         Fresh.text("2^-1", "5004");
         Fresh.text("0^-0", "1");
         Fresh.text("0^-00", "1");
         Fresh.text("x^-0", "1");
         Fresh.text("(1/x^12)^-1", "x^12");
         Fresh.text("(x/(x+1))^-2", "(x^2+2*x+1)/(x^2)");
-        terms("d(f) is the derivative by x");
+    }
+
+    private static void derivatives() {
+        sentence("d(f) is the derivative by x");
         Fresh.text("d(0)", "0");
         Fresh.text("d(10006)", "0");
         Fresh.text("d(x)", "1");
@@ -441,7 +220,10 @@ public final class TermsTest {
         Fresh.text("d(x^3)^2", "9*x^4");
         Fresh.text("d(d(x^3+x))", "6*x");
         Fresh.text("d((x+1)/(x+2))", "(1)/(x^2+4*x+4)");
-        terms("s(f,g) is f with g in x's place: N(g) / D(g)");
+    }
+
+    private static void substitutions() {
+        sentence("s(f,g) is f with g in x's place: N(g) / D(g)");
         Fresh.text("s(x^2+1,x+1)", "x^2+2*x+2");
         Fresh.text("s(x,s(x^2,x+1))", "x^2+2*x+1");
         Fresh.text("s(1/x,1/x)", "x");
@@ -453,8 +235,8 @@ public final class TermsTest {
         Fresh.text("s((x^2-4)/(x-2),2)", "4");
     }
 
-    private static void order() {
-        terms("a sum's, term's parts and s's two from left to right");
+    private static void fromLeftToRight() {
+        sentence("a sum's, term's parts and s's two from left to right");
         Fresh.answer("a+1/0", UNBOUND);
         Fresh.answer("1/0+a", DIVIDE);
         Fresh.answer("a*(1/0)", UNBOUND);
@@ -467,7 +249,10 @@ public final class TermsTest {
         Fresh.answer("s(1/0,a)", DIVIDE);
         Fresh.answer("s(x*x^12,1/0)", TOO_BIG);
         Fresh.answer("s(1/0,x*x^12)", DIVIDE);
-        terms("each operation as soon as both its sides are worked out, the first of them before the next part");
+    }
+
+    private static void asSoonAsPossible() {
+        sentence("each operation as soon as both its sides are worked out, the first of them before the next part");
         Fresh.answer("1/0*a", DIVIDE);
         Fresh.answer("1*a/0", UNBOUND);
         Fresh.answer("x*x^12*a", TOO_BIG);
@@ -487,7 +272,10 @@ public final class TermsTest {
         Fresh.answer("d(x^-12)*a", TOO_BIG);
         Fresh.answer("s(1/x,0)+a", DIVIDE);
         Fresh.answer("s(x^7,x^2)*(1/0)", TOO_BIG);
-        terms("The first trouble ends it");
+    }
+
+    private static void firstTrouble() {
+        sentence("The first trouble ends it");
         Fresh.answer("0*(1/0)+a", DIVIDE);
         Fresh.answer("x*x^12-x*x^12", TOO_BIG);
         Fresh.answer("x*x^12/x", TOO_BIG);
@@ -499,8 +287,8 @@ public final class TermsTest {
         Fresh.answer("x^12/x*x", 1);
     }
 
-    private static void troubles() {
-        terms("a name not bound or a label that isn't there: UNBOUND");
+    private static void unbound() {
+        sentence("a name not bound or a label that isn't there: UNBOUND");
         for (String line : new String[] {"a", "b", "c", "a:a", "b:b+1", "0*c", "a^0", "a-a", "d(a)", "s(1,a)", "s(a,1)", "(a)",
                 "-a", "%0", "%00", "%1", "%01", "%40", "%41", "%99", "0*%1", "a:%1"}) {
             Fresh.answer(line, UNBOUND);
@@ -512,7 +300,10 @@ public final class TermsTest {
         Check.due("%0 when 1 is there", Typist.enter(s, "%0"), UNBOUND);
         Check.due("a line's own label", Typist.enter(s, "x+%2"), UNBOUND);
         Check.due("%1 and c", Typist.enter(s, "%1-c"), 2);
-        terms("a division by the zero function: DIVIDE");
+    }
+
+    private static void divisionByZero() {
+        sentence("a division by the zero function: DIVIDE");
         for (String line : new String[] {"1/0", "0/0", "1/00000", "1/10007", "x/(x-x)", "1/d(5)", "x^12/(0*x)", "1/(1/x-1/x)",
                 "1/s(x,0)", "1/0^1"}) {
             Fresh.answer(line, DIVIDE);
@@ -520,7 +311,10 @@ public final class TermsTest {
         Fresh.answer("0/1", 1);
         Fresh.answer("1/0^0", 1);
         Fresh.answer("1/10006", 1);
-        terms("0^-k with k above 0: DIVIDE");
+    }
+
+    private static void negativePowersOfZero() {
+        sentence("0^-k with k above 0: DIVIDE");
         for (int k = 1; k <= 12; k++) {
             Fresh.answer("0^-" + k, DIVIDE);
             Fresh.answer("(x-x)^-" + k, DIVIDE);
@@ -530,7 +324,10 @@ public final class TermsTest {
         Fresh.answer("0^-01", DIVIDE);
         Fresh.answer("10007^-1", DIVIDE);
         Fresh.answer("0^-0", 1);
-        terms("D(g) being zero: DIVIDE");
+    }
+
+    private static void zeroDenominators() {
+        sentence("D(g) being zero: DIVIDE");
         Fresh.answer("s(1/x,0)", DIVIDE);
         Fresh.answer("s(1/x,x-x)", DIVIDE);
         Fresh.answer("s(0-1/x^12,10007)", DIVIDE);
@@ -542,8 +339,8 @@ public final class TermsTest {
         Fresh.answer("s((x^2-x)/x,0)", 1);
     }
 
-    private static void bigResults() {
-        terms("a result (of any operation, d, s, power or leading -) that is BIG: TOO_BIG");
+    private static void bigResultsOfOperations() {
+        sentence("a result (of any operation) that is BIG: TOO_BIG");
         Fresh.answer("x^12+1/(x+1)", TOO_BIG);
         Fresh.answer("x^11+1/(x+1)", 1);
         Fresh.answer("x^12-1/(x+1)", TOO_BIG);
@@ -558,16 +355,29 @@ public final class TermsTest {
         Fresh.answer("1/x^6*(1/x^7)", TOO_BIG);
         Fresh.answer("x^6/x^-6", 1);
         Fresh.answer("x^6/x^-7", TOO_BIG);
+    }
+
+    private static void bigDerivatives() {
+        sentence("a result (of d) that is BIG: TOO_BIG");
         Fresh.answer("d(x^12)", 1);
         Fresh.answer("d(x^-11)", 1);
         Fresh.answer("d(x^-12)", TOO_BIG);
         Fresh.answer("d(1/(x^6+1))", 1);
         Fresh.answer("d(1/(x^7+1))", TOO_BIG);
+    }
+
+    private static void bigSubstitutions() {
+        sentence("a result (of s) that is BIG: TOO_BIG");
         Fresh.answer("s(x^3,x^4)", 1);
         Fresh.answer("s(x^3,x^5)", TOO_BIG);
         Fresh.answer("s(x^3,x^-4)", 1);
         Fresh.answer("s(x^-7,x^2)", TOO_BIG);
         Fresh.answer("s(x^-7,x^-2)", TOO_BIG);
+        Fresh.answer("s(x^12,x^12)", TOO_BIG);
+        Fresh.answer("s(x^-12,x^12)", TOO_BIG);
+        Fresh.answer("s(x^12,x^-12)", TOO_BIG);
+        Fresh.answer("s(x/(x^12+1),x^12+1)", TOO_BIG);
+        Fresh.answer("s(x^12+1,x/(x^12+1))", TOO_BIG);
         Fresh.answer("s(x^12,7)", 1);
         Fresh.answer("s(7,x^12)", 1);
         Fresh.answer("s(x^12,x)", 1);
@@ -576,6 +386,10 @@ public final class TermsTest {
         Fresh.answer("s(x^6/(x^6+1),x^3)", TOO_BIG);
         Fresh.answer("s(x^12/(x^12+1),1/x)", 1);
         Fresh.answer("s(x^12/(x+2),1/(x+1))", 1);
+    }
+
+    private static void bigPowers() {
+        sentence("a result (of a power) that is BIG: TOO_BIG");
         Fresh.answer("(x^4)^3", 1);
         Fresh.answer("(x^6)^2", 1);
         Fresh.answer("(x^7)^2", TOO_BIG);
@@ -585,12 +399,23 @@ public final class TermsTest {
         Fresh.answer("(1/x^7)^2", TOO_BIG);
         Fresh.answer("(x^6)^-2", 1);
         Fresh.answer("(x^7)^-2", TOO_BIG);
+        Fresh.answer("(1/x^12)^12", TOO_BIG);
+        Fresh.answer("(x^12)^-12", TOO_BIG);
+        Fresh.answer("(x/(x^12+1))^2", TOO_BIG);
+        Fresh.answer("(x/(x^12+1))^12", TOO_BIG);
         Fresh.answer("(x^12)^0", 1);
         Fresh.answer("(x^12)^-1", 1);
+    }
+
+    private static void bigNegatives() {
+        sentence("a result (of a leading -) that is BIG: TOO_BIG");
         Fresh.answer("-x^12", 1);
         Fresh.answer("-x^-12", 1);
         Fresh.answer("-x*x^12", TOO_BIG);
-        terms("Literals, x, names and labels alone are never BIG");
+    }
+
+    private static void neverBig() {
+        sentence("Literals, x, names and labels alone are never BIG");
         RationalSession s = new RationalSession();
         Check.due("99999", Typist.enter(s, "99999"), 1);
         Check.due("x", Typist.enter(s, "x"), 2);
@@ -604,7 +429,7 @@ public final class TermsTest {
     }
 
     private static void labels() {
-        terms("LABELS 1, 2, .. (at most 40) are given to the lines worked out, in order");
+        sentence("LABELS 1, 2, .. (at most 40) are given to the lines worked out, in order");
         RationalSession s = new RationalSession();
         for (int i = 1; i <= 40; i++) {
             Check.due("a line that is not good", Typist.enter(s, "x+"), RationalSession.SYNTAX);
@@ -615,21 +440,26 @@ public final class TermsTest {
         Check.due("line 41", Typist.enter(s, "41"), FULL);
         Check.due("labels()", s.labels(), 40);
         Check.due("label 41", s.shape(41), RationalSession.REFUSED);
-        terms("Two labels with the same FORM have the same SHAPE NUMBER");
+    }
+
+    private static void sameShape() {
+        sentence("Two labels with the same FORM have the same SHAPE NUMBER");
         RationalSession same = new RationalSession();
         for (int i = 1; i <= 40; i++) {
             Typist.enter(same, "x^" + i % 3 + "+" + (i % 3 == 0 ? "10006" : "0"));
             Check.due("shape(" + i + ")", same.shape(i), i < 3 ? i : (i - 1) % 3 + 1);
         }
         Check.due("shapes()", same.shapes(), 3);
-        Check.due("0 and x differ", same.shape(1) == same.shape(3) ? 1 : 0, 0);
         RationalSession parts = new RationalSession();
         Typist.enter(parts, "x");
         Typist.enter(parts, "x/(x+1)");
         Typist.enter(parts, "1/(x+1)");
         Typist.enter(parts, "x+1");
         Check.due("N alone is not enough, nor is D", parts.shapes(), 4);
-        terms("these are given 1, 2, .. in order of first appearance");
+    }
+
+    private static void orderOfShapes() {
+        sentence("these are given 1, 2, .. in order of first appearance");
         RationalSession many = new RationalSession();
         for (int i = 1; i <= 40; i++) {
             Typist.enter(many, i + "*x");
@@ -642,11 +472,23 @@ public final class TermsTest {
             Typist.enter(mixed, lines[i]);
             Check.due("shape of " + lines[i], mixed.shape(i + 1), numbers[i]);
         }
-        terms("Names are not bound at first");
+    }
+
+    private static void namesAtFirst() {
+        sentence("Names are not bound at first");
         RationalSession names = new RationalSession();
         for (int name = 0; name < 3; name++) {
             Check.due("bound(" + name + ")", names.bound(name), 0);
             Check.due("line " + (char) ('a' + name), Typist.enter(names, "" + (char) ('a' + name)), UNBOUND);
         }
+    }
+
+    private static void checkZeroFunction(String line) {
+        RationalSession s = new RationalSession();
+        Check.due(line, Typist.enter(s, line), 1);
+        Check.due(line + ": degree of N", s.degree(1, false), -1);
+        Check.due(line + ": degree of D", s.degree(1, true), 0);
+        Check.due(line + ": D", s.coefficient(1, true, 0), 1);
+        Check.due(line + ": text", Typist.text(s, 1), "0");
     }
 }
